@@ -8,6 +8,7 @@ public final class ForetoldTest {
         gap(c);
         wrong(c);
         soon(c);
+        soonByHalves(c);
         soonBehindAll(c);
         laws(c);
         error(c);
@@ -164,6 +165,14 @@ public final class ForetoldTest {
         c.due("soon(0)", x.soon(0), first);
         c.due("soon(1)", x.soon(1), second);
         c.due("soon(2)", x.soon(2), Checks.NONE);
+    }
+
+    /** What is cut off by TOP comes out on a DAY on which nothing lies. */
+    private static void soonByHalves(Checks c) {
+        soon(c, Checks.with("law 3 1 4;thing salt 7;"), 2, 1, 0);
+        soon(c, Checks.with("law 2 1 5;thing stone 2;thing stone 3;day 3;"), 2, 0, 1);
+        soon(c, Checks.with("law 0 1 3;thing fish 0;day 0;day 0;"), 2, 1, 1);
+        soon(c, Checks.with("law 0 1 9;thing salt 3;thing wool 7;day 3;"), 1, 1, Checks.NONE);
     }
 
     private static void soonBehindAll(Checks c) {

@@ -132,6 +132,12 @@ public final class RowsTest {
         x.set(0, 0, 0);
         c.due("PLACE", x.status(), 2);
         x.row(1, 1, 1);
+        x.set(2, 0, 0);
+        x.set(1, 0, 0);
+        c.due("set", x.status(), 0);
+        x.set(2, 0, 0);
+        x.copy(1, 0, 1, 0, 1);
+        c.due("copy", x.status(), 0);
         x.copy(0, 0, 1, 0, 0);
         c.due("STORE", x.status(), 5);
         x.feed(0, 9);

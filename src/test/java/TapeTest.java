@@ -57,6 +57,8 @@ public final class TapeTest {
         fault(c, "  ", 2, 1);
         fault(c, "lawx 0 0 2;", 0, 1);
         fault(c, "la", 0, 1);
+        fault(c, "lawz 0 0 2;", 0, 1);
+        fault(c, "law 0 0 2;zthing salt 1;", 10, 1);
         fault(c, "Law 0 0 2;", 0, 1);
         fault(c, "law", 3, 1);
         fault(c, "law ;", 4, 1);
