@@ -168,14 +168,9 @@ public final class YesterdayScale {
     }
 
     public int fits(int row, int thing, int w) {
-        if (!current.there) {
-            return STATE;
-        }
         boolean anyThing = thing == -1;
-        if (!isRow(row) || !anyThing && current.thingAt(thing) == null || w < 0 || w > HEAVIEST) {
-            return BAD;
-        }
-        int refusal = refusalToTell(row);
+        boolean noThing = !anyThing && current.thingAt(thing) == null;
+        int refusal = refusalToTell(row, noThing || w < 0 || w > HEAVIEST);
         if (refusal != 0) {
             return refusal;
         }
@@ -184,13 +179,7 @@ public final class YesterdayScale {
     }
 
     public int sure(int row, int thing) {
-        if (!current.there) {
-            return STATE;
-        }
-        if (!isRow(row) || current.thingAt(thing) == null) {
-            return BAD;
-        }
-        int refusal = refusalToTell(row);
+        int refusal = refusalToTell(row, current.thingAt(thing) == null);
         if (refusal != 0) {
             return refusal;
         }
@@ -199,13 +188,7 @@ public final class YesterdayScale {
     }
 
     public int gap(int row, int day) {
-        if (!current.there) {
-            return STATE;
-        }
-        if (!isRow(row) || !current.hasDay(day)) {
-            return BAD;
-        }
-        int refusal = refusalToTell(row);
+        int refusal = refusalToTell(row, !current.hasDay(day));
         if (refusal != 0) {
             return refusal;
         }
@@ -214,13 +197,7 @@ public final class YesterdayScale {
     }
 
     public int wrong(int row, int what) {
-        if (!current.there) {
-            return STATE;
-        }
-        if (!isRow(row) || what < 0 || what > 1) {
-            return BAD;
-        }
-        int refusal = refusalToTell(row);
+        int refusal = refusalToTell(row, what < 0 || what > 1);
         if (refusal != 0) {
             return refusal;
         }
@@ -241,17 +218,8 @@ public final class YesterdayScale {
     }
 
     public int laws(int row) {
-        if (!current.there) {
-            return STATE;
-        }
-        if (!isRow(row)) {
-            return BAD;
-        }
-        int refusal = refusalToTell(row);
-        if (refusal != 0) {
-            return refusal;
-        }
-        return passed(current.lawsTelling(rows[row].items));
+        int refusal = refusalToTell(row, false);
+        return refusal != 0 ? refusal : passed(current.lawsTelling(rows[row].items));
     }
 
     public int error(int day) {
@@ -365,8 +333,14 @@ public final class YesterdayScale {
         return there;
     }
 
-    /** The answer that a ROW gets which cannot tell all DAYS; 0: it can. */
-    private int refusalToTell(int row) {
+    /** The answer that a ROW gets which cannot tell all DAYS, or comes with a number that is not as told; 0: none. */
+    private int refusalToTell(int row, boolean notAsTold) {
+        if (!current.there) {
+            return STATE;
+        }
+        if (notAsTold || !isRow(row)) {
+            return BAD;
+        }
         Row telling = rows[row];
         if (!telling.there) {
             return found(FOUND_NULL);
