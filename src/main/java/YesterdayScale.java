@@ -100,6 +100,7 @@ public final class YesterdayScale {
             latestFault = tape.faultNumber;
             return FAULT_AT - tape.faultPlace;
         }
+        draft.makeThings();
         current.become(draft);
         worlds.forget();
         return current.days;
@@ -616,6 +617,8 @@ public final class YesterdayScale {
         int things;
         int days;
         int stones;
+        final int[] sorts = new int[MOST_THINGS];
+        final int[] weights = new int[MOST_THINGS];
         final Thing[] laid = new Thing[MOST_THINGS];
         /** Places behind the last DAY are free to try DAYS in that are only foretold. */
         final int[] sets = new int[MOST_DAYS + FORETOLD_DAYS];
@@ -639,6 +642,8 @@ public final class YesterdayScale {
             days = other.days;
             stones = other.stones;
             for (int i = 0; i < MOST_THINGS; i++) {
+                sorts[i] = other.sorts[i];
+                weights[i] = other.weights[i];
                 laid[i] = other.laid[i];
             }
             System.arraycopy(other.sets, 0, sets, 0, sets.length);
@@ -648,11 +653,19 @@ public final class YesterdayScale {
             if (things >= MOST_THINGS) {
                 return;
             }
-            laid[things] = made(sort, things, weight);
+            sorts[things] = sort;
+            weights[things] = weight;
             if (sort == Stone.KIND) {
                 stones |= 1 << things;
             }
             things++;
+        }
+
+        /** Apart from reading: a PORT with a FAULT makes none, and calls go less deep. */
+        void makeThings() {
+            for (int i = 0; i < things; i++) {
+                laid[i] = made(sorts[i], i, weights[i]);
+            }
         }
 
         private static Thing made(int sort, int number, int weight) {
@@ -966,10 +979,7 @@ public final class YesterdayScale {
         private static int worldOf(Port port) {
             int world = 0;
             for (int i = 0; i < port.things; i++) {
-                Thing known = port.laid[i];
-                if (known != null) {
-                    world |= known.weight << (WEIGHT_BITS * i);
-                }
+                world |= port.weights[i] << (WEIGHT_BITS * i);
             }
             return world;
         }
@@ -988,14 +998,10 @@ public final class YesterdayScale {
             return many;
         }
 
-        private void tryDay(Port port, int onDay, int set) {
-            port.sets[onDay] = set;
-            takeDay(port, onDay);
-        }
-
         private boolean findOneDay(Port port, int many, int truth) {
             for (int set = 0; set <= port.allThings(); set++) {
-                tryDay(port, days, set);
+                port.sets[days] = set;
+                takeDay(port, days);
                 if (isAlone(truth, many, days)) {
                     soonDays = 1;
                     soonFirst = set;
@@ -1007,10 +1013,12 @@ public final class YesterdayScale {
 
         private void findTwoDays(Port port, int many, int truth) {
             for (int set = 0; set <= port.allThings(); set++) {
-                tryDay(port, days, set);
+                port.sets[days] = set;
+                takeDay(port, days);
                 int left = bringForward(truth, many);
                 for (int then = 0; then <= port.allThings(); then++) {
-                    tryDay(port, days + 1, then);
+                    port.sets[days + 1] = then;
+                    takeDay(port, days + 1);
                     if (isAlone(truth, left, days + 1)) {
                         soonDays = 2;
                         soonFirst = set;
@@ -1133,7 +1141,8 @@ public final class YesterdayScale {
         }
 
         int heavyWith(int ofWeight, int onDay) {
-            return Math.max(0, ofWeight - onDay / DAYS_TO_DRY);
+            int left = ofWeight - onDay / DAYS_TO_DRY;
+            return left > 0 ? left : 0;
         }
 
         int markBy(Asking asking, int depth) {

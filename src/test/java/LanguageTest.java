@@ -17,7 +17,7 @@ public final class LanguageTest {
     private static final Set<String> FACE = Set.of("row", "set", "copy", "drop", "feed", "port", "fault", "day", "undo",
         "shown", "heavy", "next", "fits", "sure", "gap", "wrong", "soon", "laws", "error", "sold", "image", "restore",
         "kind", "as", "ask", "trace", "count", "status");
-    private static final Set<String> LIBRARY = Set.of("System.arraycopy", "Math.max", "Integer.bitCount");
+    private static final Set<String> LIBRARY = Set.of("System.arraycopy", "Integer.bitCount");
 
     public static void main(String[] args) throws Exception {
         Checks c = new Checks("Language");
