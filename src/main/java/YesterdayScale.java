@@ -623,11 +623,8 @@ public final class YesterdayScale {
         /** Places behind the last DAY are free to try DAYS in that are only foretold. */
         final int[] sets = new int[MOST_DAYS + FORETOLD_DAYS];
 
+        /** The law needs no clearing: it is read anew ahead of all else. */
         void clear() {
-            there = false;
-            keeps = 0;
-            half = 0;
-            top = 0;
             things = 0;
             days = 0;
             stones = 0;

@@ -105,6 +105,34 @@ final class ForetoldSentences {
         fitting(s, anew, 1, 1, 1, 21);
         fitting(s, anew, 8, -1, 1, 21);
         fitting(s, anew, 0, 1, 2, 21);
+        heavyWorlds(s);
+    }
+
+    /** HEAVY in a WORLD: a fish of any WEIGHT up to 2 is 0 heavy on DAY 8, wool is 2 more then, a whale ten times. */
+    private static void heavyWorlds(Sentences s) {
+        String late = "day 0;".repeat(8);
+        YesterdayScale fish = Checks.with("law 0 0 200;thing fish 1;" + late + "day 1;");
+        fitting(s, fish, 3, 0, 0, 0, 0, 0, 0, 0, 0, 0);
+        fitting(s, fish, 1, 0, 0, 0, 0, 0, 0, 0, 0, 5);
+        fitting(s, fish, 0, 0, 0, 0, 0, 0, 0, 0, 0, 6);
+        YesterdayScale x = Checks.with("law 0 0 200;thing wool 1;thing wool 2;thing wool 0;thing wool 0;"
+            + late + "day 1;day 2;day 12;");
+        int[] told = {0, 0, 0, 0, 0, 0, 0, 0, 2, 2, 4};
+        fitting(s, x, 1, told);
+        fitting(s, x, 1, told);
+        for (int thing = 0; thing < 4; thing++) {
+            s.due("wool of 0", x.sure(0, thing), 0);
+        }
+        s.due("DAY 8", x.gap(0, 8), 2);
+        told[8] = 1;
+        fitting(s, x, 0, told);
+        s.due("DAY 8 is false", x.wrong(0, 1), 1 << 8);
+        told[8] = 9;
+        fitting(s, x, 1, told);
+        s.due("wool of 7", x.sure(0, 0), 7);
+        YesterdayScale whale = Checks.with("law 0 0 200;thing salt 0;thing whale 3;day 2;");
+        fitting(s, whale, 8, 70);
+        fitting(s, whale, 0, 7);
     }
 
     private static void fitting(Sentences s, YesterdayScale x, int many, int... told) {
@@ -396,6 +424,16 @@ final class ForetoldSentences {
         soonest(s, "law 3 0 200;thing salt 3;day 1;", 0);
         soonest(s, "law 3 1 4;thing salt 7;", 2, 1, 0);
         soonest(s, "law 2 0 200;thing stone 3;thing salt 3;day 0;", 2, 1, 2);
+        // The sum of both is 5 or 10 or none; by half of it 5, and by the one that is 2 or 7, all is sure.
+        soonest(s, "law 2 1 5;thing stone 2;thing stone 3;day 3;", 2, 0, 1);
+        // By what is left over of it alone, 1, 4 and 7 are alike, or 0 and 7; by its half they are not.
+        soonest(s, "law 1 1 3;thing fish 4;", 2, 1, 0);
+        soonest(s, "law 1 1 7;thing stone 1;thing fish 0;day 1;", 2, 2, 0);
+        soonest(s, "law 0 1 7;thing salt 1;thing salt 1;", 2, 1, 2);
+        soonest(s, "law 1 0 18;thing whale 5;thing wool 1;thing salt 0;", 2, 3, 6);
+        soonest(s, "law 2 1 6;thing salt 3;thing wool 7;thing whale 5;day 3;day 0;", 2, 5, 1);
+        // A fish of 0, 3 or 6 on DAY 2, and one that has dried on DAY 3.
+        soonest(s, "law 0 1 3;thing fish 0;day 0;day 0;", 2, 1, 1);
         // Yesterday's LOAD comes out where nothing lies today, so the least SET of all is enough.
         soonest(s, "law 1 1 4;thing salt 7;day 1;", 1, 0);
     }
@@ -405,6 +443,9 @@ final class ForetoldSentences {
         soonest(s, "law 0 0 200;thing salt 3;thing salt 4;thing salt 5;", Checks.NONE);
         soonest(s, "law 0 0 200;thing salt 3;thing salt 4;thing salt 5;thing salt 4;day 1;", Checks.NONE);
         soonest(s, "law 0 0 2;thing salt 3;", Checks.NONE);
+        // 1 and 7 are alike by what is left over of them, and of twice as much.
+        soonest(s, "law 1 0 6;thing wool 7;", Checks.NONE);
+        soonest(s, "law 2 1 6;thing stone 3;thing stone 4;thing stone 0;", Checks.NONE);
         // A fish of 7 is 1 heavy on DAY 20, all others are 0 then; on DAY 21 all are.
         late(s, 7, 20, 1, 1);
         late(s, 7, 21, Checks.NONE, Checks.NONE);
@@ -445,6 +486,16 @@ final class ForetoldSentences {
         s.due("another", x.soon(-1), 0);
         x.undo();
         s.due("it went", x.soon(0), 4);
+        x.image(0);
+        x.undo();
+        s.due("one less", x.soon(0), 2);
+        x.restore(0);
+        s.due("restored", x.soon(0), 4);
+        Checks.feed(x, "law 0 0 2;");
+        x.port();
+        s.due("another PORT", x.soon(-1), 0);
+        x.restore(0);
+        s.due("restored again", x.soon(-1), 1);
         s.says(18, "NONE.");
         s.due("no second", x.soon(1), Checks.NONE);
         s.due("no third", x.soon(2), Checks.NONE);

@@ -25,6 +25,10 @@ final class Sentences {
     private int wrong;
 
     Sentences() throws IOException {
+        if (!Files.exists(DOCUMENT)) {
+            System.out.println("Sentences: no " + DOCUMENT + ": the words are not held against it");
+            return;
+        }
         String document = Files.readString(DOCUMENT);
         put(TERMS, between(document, "## Terms\n", "## Promise 1:"));
         for (int i = 1; i <= PROMISES; i++) {
@@ -51,6 +55,9 @@ final class Sentences {
         now = (part == TERMS ? "Terms" : "Promise " + part) + " \"" + words + "\"";
         sentences++;
         answersNow = 0;
+        if (texts.isEmpty()) {
+            return;
+        }
         Matcher matcher = Pattern.compile("(?<![a-z0-9])" + Pattern.quote(words) + "(?![a-z0-9])")
             .matcher(texts.get(part));
         boolean stands = false;

@@ -231,9 +231,12 @@ final class TextSentences {
         s.due("TOP", x.count(5), 20);
         s.due("THINGS", x.count(1), 1);
         s.due("whale", x.kind(0), 5);
-        s.due("no stone is there any more", x.shown(0, 3), 0);
         s.due("no thing 1", x.kind(1), Checks.BAD);
         s.due("no day 1", x.shown(1, 0), Checks.BAD);
+        read(x, "law 0 0 50;thing stone 1;day 1;");
+        read(x, "law 1 0 50;thing salt 1;day 1;day 1;");
+        s.due("no stone is there any more", x.shown(1, 3), 0);
+        s.due("nothing begins anew", x.shown(1, 2), 2);
         s.due("one without anything", read(x, LAW), 0);
         s.due("THINGS", x.count(1), 0);
         s.says(0, "its DAYS, 0 on, are those told.");
@@ -295,6 +298,13 @@ final class TextSentences {
         s.due("a fault", read(x, LAW + "?"), -1000110);
         s.due("empty then, too", x.count(6), 0);
         s.due("nothing of it is left", read(x, LAW), 0);
+        read(x, "law 3 1 111;thing saltsaltsalt 1;");
+        s.due("nor of what stood further on: a NUMBER", read(x, "law 3 1 9"), -1000109);
+        read(x, "law 3 1 111;thing saltsaltsalt 1;");
+        s.due("nor a NAME", read(x, "law 3 1 11;thing salt"), -1000121);
+        s.due("a NUMBER up to the last byte", read(x, " ".repeat(391) + "law 0 0 2"), -1000500);
+        s.due("a NAME up to the last byte", read(x, " ".repeat(397) + "law"), -1000500);
+        s.due("a SIGN that is the last byte", read(x, " ".repeat(390) + LAW), 0);
         s.says(7, "-1000100 less the place of a FAULT: all stays.");
         read(x, "law 3 1 50;thing stone 5;thing wool 6;day 3;day 1;");
         x.ask(0, 0);
