@@ -133,6 +133,14 @@ final class ForetoldSentences {
         YesterdayScale whale = Checks.with("law 0 0 200;thing salt 0;thing whale 3;day 2;");
         fitting(s, whale, 8, 70);
         fitting(s, whale, 0, 7);
+        // No WORLD but the 4096 of four THINGS counts, however DAYS ahead of wool that grows are told.
+        YesterdayScale four = Checks.with("law 0 0 200;thing salt 1;thing salt 0;thing wool 0;thing salt 0;"
+            + "day 0;day 0;day 0;day 1;day 4;day 1;");
+        fitting(s, four, 512, 0, 0, 0, 1, -1, -1);
+        s.due("salt of 1", four.sure(0, 0), 1);
+        s.due("DAY 5", four.gap(0, 5), 1);
+        fitting(s, four, 0, 0, 0, 0, 1, -1, 0);
+        s.due("DAY 3 or 5 is false", four.wrong(0, 1), 1 << 3);
     }
 
     private static void fitting(Sentences s, YesterdayScale x, int many, int... told) {
